@@ -111,7 +111,8 @@ public final class EchoPaysRent {
         if (!isYard(y) || !isBeat(b)) {
             return BAD;
         }
-        return heardIn(canyon, y, b);
+        listen(canyon, y, canyon.allWords());
+        return sound.valueAt(b);
     }
 
     public int clear(int y) {
@@ -298,9 +299,12 @@ public final class EchoPaysRent {
 
     public int moved() {
         for (int f = 0; f < canyon.cliffCount(); f++) {
-            int yard = yardMovedTo(f);
-            if (yard != NONE) {
-                return 100 * f + yard;
+            trial.copy(canyon);
+            for (int yard = 0; yard <= LAST_YARD; yard++) {
+                trial.moveCliff(f, yard);
+                if (yard != canyon.cliffPart(f, YARD) && isAsEarsHeard(trial)) {
+                    return 100 * f + yard;
+                }
             }
         }
         return NONE;
@@ -383,11 +387,6 @@ public final class EchoPaysRent {
         sound.play(at, set, ways, 0);
     }
 
-    private int heardIn(Canyon at, int y, int b) {
-        listen(at, y, at.allWords());
-        return sound.valueAt(b);
-    }
-
     /** Which of a set of WORDS are CLEAR at yard y when only these are said. */
     private int clearSet(Canyon at, int y, int set) {
         listen(at, y, set);
@@ -395,7 +394,8 @@ public final class EchoPaysRent {
     }
 
     private int clearCount(Canyon at, int y) {
-        return Integer.bitCount(clearSet(at, y, at.allWords()));
+        listen(at, y, at.allWords());
+        return Integer.bitCount(sound.clearOf(at, at.allWords(), ways, 0));
     }
 
     private int rentOf(Canyon at) {
@@ -534,25 +534,13 @@ public final class EchoPaysRent {
     // ---- ears, evenings
 
     private boolean isAsEarsHeard(Canyon at) {
-        for (int e = 0; e < ears.size() / PARTS; e++) {
-            int y = ears.ofThree(e, EAR_YARD);
-            int b = ears.ofThree(e, EAR_BEAT);
-            if (heardIn(at, y, b) != ears.ofThree(e, EAR_VALUE)) {
+        for (int e = 0; e < ears.size(); e += PARTS) {
+            listen(at, ears.at(e + EAR_YARD), at.allWords());
+            if (sound.valueAt(ears.at(e + EAR_BEAT)) != ears.at(e + EAR_VALUE)) {
                 return false;
             }
         }
         return true;
-    }
-
-    private int yardMovedTo(int f) {
-        trial.copy(canyon);
-        for (int yard = 0; yard <= LAST_YARD; yard++) {
-            trial.moveCliff(f, yard);
-            if (yard != canyon.cliffPart(f, YARD) && isAsEarsHeard(trial)) {
-                return yard;
-            }
-        }
-        return NONE;
     }
 
     private void addEveningHeckler(int z, int k) {
@@ -598,10 +586,6 @@ public final class EchoPaysRent {
             cells[size] = number;
             size++;
             return true;
-        }
-
-        int ofThree(int i, int part) {
-            return at(PARTS * i + part);
         }
 
         boolean addThree(int a, int b, int c) {
@@ -703,11 +687,11 @@ public final class EchoPaysRent {
         }
 
         int cliffPart(int f, int part) {
-            return cliffs.ofThree(f, part);
+            return cliffs.at(PARTS * f + part);
         }
 
         int wordPart(int w, int part) {
-            return words.ofThree(w, part);
+            return words.at(PARTS * w + part);
         }
 
         boolean hasSnow(int f) {

@@ -184,7 +184,7 @@ public final class HeardTest {
         // of several the one of more RENT: within 1 yard of the CLIFF at 22
         place("w0,1,3;s9;h20;f22,0,0;", 21, 1, 7, 1);
         // as LOUD as 5 it comes BACK from 20 on; the weaker one is masked and pays nothing
-        place("w0,1,5;w0,2,4;s9;h20;f22,0,0;", 20, 1, 16, 1);
+        place("w0,1,5;w0,2,4;s9;h20;f22,0,0;", 20, 1, 5, 1);
         // RENT counts for nothing against what is CLEAR
         place("w0,1,9;s9;h0;f40,0,0;", 0, 1, 1, 1);
     }
