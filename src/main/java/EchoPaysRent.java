@@ -78,10 +78,10 @@ public final class EchoPaysRent {
             return NO;
         }
         canyon.copy(trial);
-        wanted.cut(0);
-        ears.cut(0);
-        past.cut();
-        kept.cut();
+        wanted.drop();
+        ears.drop();
+        past.drop();
+        kept.drop();
         return canyon.wordCount();
     }
 
@@ -205,7 +205,7 @@ public final class EchoPaysRent {
 
     public int noTalk() {
         int had = wanted.size();
-        wanted.cut(0);
+        wanted.drop();
         return had;
     }
 
@@ -276,7 +276,7 @@ public final class EchoPaysRent {
 
     public int noEars() {
         int were = ears.size() / PARTS;
-        ears.cut(0);
+        ears.drop();
         return were;
     }
 
@@ -336,7 +336,7 @@ public final class EchoPaysRent {
         if (!kept.take(canyon)) {
             return NO;
         }
-        past.cut();
+        past.drop();
         return kept.size();
     }
 
@@ -507,25 +507,23 @@ public final class EchoPaysRent {
         for (int w = 0; w < canyon.wordCount(); w++) {
             // the heckler's own V can only be heard as that V, it spoils nothing
             if ((clear >> w & 1) == 1 && canyon.wordPart(w, VALUE) != v) {
-                int found = leastAgainst(canyon.wordPart(w, BEAT) + ways.later(0));
-                if (found != NONE && (least == NONE || found < least)) {
-                    least = found;
-                }
+                least = leastAgainst(canyon.wordPart(w, BEAT) + ways.later(0), least);
             }
         }
         return least;
     }
 
-    /** By which of otherWays what is heard at a beat is reached by the least LOUDNESS. */
-    private int leastAgainst(int beat) {
-        int least = NONE;
+    /** The least by which what is HEARD at a beat is spoilt on one of otherWays, or what was least before. */
+    private int leastAgainst(int beat, int before) {
+        int least = before;
         for (int way = 0; way < otherWays.size(); way++) {
             // as LOUD as what is heard is enough: then it is a BLUR
             int loud = sound.loudnessAt(beat) + otherWays.weaker(way);
             int said = beat - otherWays.later(way);
-            if (within(loud, 1, MOST_LOUD) && within(said, 0, LAST_OTHER_BEAT)) {
-                int found = loud * BEATS + said;
-                least = least == NONE ? found : Math.min(least, found);
+            int found = loud * BEATS + said;
+            boolean canBe = within(loud, 1, MOST_LOUD) && within(said, 0, LAST_OTHER_BEAT);
+            if (canBe && (least == NONE || found < least)) {
+                least = found;
             }
         }
         return least;
@@ -595,8 +593,8 @@ public final class EchoPaysRent {
             return add(a) && add(b) && add(c);
         }
 
-        void cut(int length) {
-            size = Math.max(0, Math.min(size, length));
+        void drop() {
+            size = 0;
         }
 
         void fillWithZeros() {
@@ -605,7 +603,7 @@ public final class EchoPaysRent {
         }
 
         void copy(Row other) {
-            cut(0);
+            drop();
             for (int i = 0; i < other.size; i++) {
                 add(other.at(i));
             }
@@ -626,8 +624,8 @@ public final class EchoPaysRent {
         }
 
         void empty() {
-            cliffs.cut(0);
-            words.cut(0);
+            cliffs.drop();
+            words.drop();
             speaker = 0;
             hearer = 10;
             air = 1;
@@ -709,7 +707,7 @@ public final class EchoPaysRent {
         }
 
         void drop() {
-            bytes.cut(0);
+            bytes.drop();
         }
 
         boolean append(int n, long v) {
@@ -741,7 +739,7 @@ public final class EchoPaysRent {
             int letter = bytes.at(start);
             int wanted = letter == 'f' || letter == 'w' ? 3 : 1;
             int place = start + 1;
-            numbers.cut(0);
+            numbers.drop();
             for (int i = 0; i < wanted; i++) {
                 int figures = figuresAt(place);
                 if (figures == 0) {
@@ -804,8 +802,8 @@ public final class EchoPaysRent {
         }
 
         void trace(Canyon at, int from, int to) {
-            beats.cut(0);
-            losses.cut(0);
+            beats.drop();
+            losses.drop();
             int far = Math.abs(from - to);
             addWay(far, at.air * far);
             for (int f = 0; f < at.cliffCount(); f++) {
@@ -944,7 +942,7 @@ public final class EchoPaysRent {
             return size;
         }
 
-        void cut() {
+        void drop() {
             size = 0;
         }
 

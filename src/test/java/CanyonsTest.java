@@ -111,7 +111,13 @@ public final class CanyonsTest {
         fault("h1;w1,1.1;", 3);
         fault("1;", 0);
         fault(";", 0);
+        // the signs beside the figures
+        fault("s/;", 0);
+        fault("s:;", 0);
+        fault("s1/;", 0);
+        fault("s1:;", 0);
         fault("s\u00b2;", 0);
+        fault("f1,:,3;", 0);
         fault("s1;\0", 3);
         // the first of two
         fault("a1;a0;f9,9,9;", 3);
@@ -184,6 +190,16 @@ public final class CanyonsTest {
         Due.due("5: back()", x.back(), NO);
         Due.due("5: the SPEAKER", x.count(2), 0);
         Due.due("5: lines(0)", x.lines(0), NO);
+        // what was asked before does not come into it
+        x.snow(1);
+        x.thick();
+        x.wipe();
+        Due.write(x, "f1,1,1;w5,5,5;w6,6,6;");
+        Due.due("5: lay()", x.lay(), 2);
+        Due.due("5: no SNOW", x.face(0, 3), 0);
+        Due.due("5: CLIFFS", x.count(0), 1);
+        Due.due("5: face(0, 0)", x.face(0, 0), 1);
+        Due.due("5: word(0, 0)", x.word(0, 0), 5);
     }
 
     private static void layRefused() {

@@ -153,11 +153,21 @@ public final class EarsTest {
         // his comes BACK by 32 at 6, as LOUD as 44, and masks the second WORD
         Due.due("27: BACK as well", Due.laid("w0,1,50;w5,2,20;s28;h29;f32,0,0;").evening(9), 1);
         Due.due("27: BACK, too weak", Due.laid("w0,1,50;w5,2,46;s28;h29;f32,0,0;").evening(9), 2);
+        // the SPEAKER at the heckler's own yard: unlike ones are a BLUR, like ones are not
+        for (int z = 0; z < 300; z++) {
+            long x = 7919L * z + 1;
+            int q = (int) (x * x % 65521);
+            int yard = q / 21 % 41;
+            int value = q / 3 % 7 + 1;
+            for (int v = 1; v <= 7 && q % 3 == 0; v++) {
+                String text = "w0," + v + ",60;s" + yard + ";h20;";
+                Due.due("27: evening(" + z + ") of " + text, Due.laid(text).evening(z), v == value ? 1 : 0);
+            }
+        }
         // each WORD's heckler is only as LOUD as it and may spoil another one
         evening("w0,1,50;w10,2,50;h40;", eveningsOf(new int[][] {{0, 1, 50}, {10, 2, 50}}, 40));
         evening("w0,3,60;w9,4,59;w20,5,58;h0;", eveningsOf(new int[][] {{0, 3, 60}, {9, 4, 59}, {20, 5, 58}}, 0));
-        EchoPaysRent x = Due.laid("w0,1,10;");
-        Due.due("27: none comes", x.evening(9999), 0);
+        Due.due("27: none comes", Due.laid("w0,1,10;").evening(9999), 0);
     }
 
     /** Without CLIFFS, WORDS far from each other: the SPEAKER at 0, hecklers at the WORDS' own beats. */

@@ -56,6 +56,8 @@ public final class HeardTest {
         hears("w0,4,60;s5;f7,0,0;", 10, 5, 4);
         hears("w0,4,60;s5;f1,0,0;", 10, 5, 4, 13, 4);
         hears("w2,4,60;s5;f15,0,3;f0,0,2;", 10, 7, 4, 17, 4, 21, 4, 19, 4);
+        // nine ways: DIRECT, and twice from each of four
+        hears("w0,4,60;s10;f11,0,3;f13,0,3;f20,0,3;f24,0,3;", 10, 0, 4, 2, 4, 6, 4, 10, 4, 20, 4, 24, 4, 28, 4, 32, 4);
     }
 
     private static void loudnessByKinds() {
@@ -185,6 +187,8 @@ public final class HeardTest {
         place("w0,1,3;s9;h20;f22,0,0;", 21, 1, 7, 1);
         // as LOUD as 5 it comes BACK from 20 on; the weaker one is masked and pays nothing
         place("w0,1,5;w0,2,4;s9;h20;f22,0,0;", 20, 1, 5, 1);
+        place("w0,1,1;s9;h40;", 40, 1, 9, 1);
+        place("w0,1,1;s40;h9;", 9, 1, 40, 1);
         // RENT counts for nothing against what is CLEAR
         place("w0,1,9;s9;h0;f40,0,0;", 0, 1, 1, 1);
     }

@@ -95,6 +95,7 @@ public final class PlaysTest {
         lines("w0,7,60;", row(0), 0, 0);
         lines("w0,7,60;", row(3, 0, 2, 2, 1, 0), 4, 3, 0, 2, 2, 1, 0);
         lines("w0,7,60;", row(0, 0, 0, 0, 0, 0), 0, 0, 0, 0, 0, 0, 0);
+        lines("w0,7,60;", row(3, 1, 2, 2, 1, 3), 6, 3, 1, 2, 2, 1, 3);
         // 50 comes 49 yards far through air 1, and not where the air takes it all
         lines("w0,7,60;h40;", row(1, 2), 2, 1, 2);
         lines("w0,7,60;h10;a5;", row(1, 2), NONE);
@@ -201,6 +202,7 @@ public final class PlaysTest {
         Due.due("21: a BLUR", Due.laid("w0,1,50;w0,2,50;h0;").thick(), NONE);
         // what comes BACK at 2 is 58 LOUD by air 1, 56 by 2, 54 by 3: it masks 55 by the first two only
         Due.due("21: by each lower one", Due.laid("w0,1,60;w2,2,55;f1,0,0;h0;").thick(), NONE);
+        Due.due("21: by the first one", Due.laid("w0,1,60;w2,2,57;f1,0,0;h0;").thick(), NONE);
         Due.due("21: by the lowest one", Due.laid("w0,1,60;w2,2,59;f1,0,0;h0;").thick(), 99);
         // the SNOW lies by every air
         EchoPaysRent x = Due.laid("w0,1,60;w2,2,55;f1,0,0;h0;");
@@ -232,6 +234,9 @@ public final class PlaysTest {
         heckle("w5,1,29;w2,3,30;", 10, 2, 19, 15);
         heckle("w5,2,29;w2,3,30;", 10, 2, 20, 12);
         heckle("w5,2,29;w2,3,30;", 10, 3, 19, 15);
+        // one that can be spoilt, and one said too late for it
+        heckle("w0,1,60;w30,2,60;s40;h0;", 0, 3, 20, 40);
+        heckle("w30,2,60;w0,1,60;s40;h0;", 0, 3, 20, 40);
         // one that is not CLEAR can't be spoilt
         heckle("w5,1,9;w2,3,30;", 10, 2, 20, 12);
         heckle("w5,1,9;", 10, 2, NONE, NONE);
