@@ -1,4 +1,5 @@
 import java.nio.charset.StandardCharsets;
+import java.util.function.IntUnaryOperator;
 
 /** What the tests share: telling a wrong answer, and writing a text into an object. */
 final class Due {
@@ -13,6 +14,16 @@ final class Due {
         if (got != want) {
             wrong++;
             System.out.println(call + " answered " + got + ", due is " + want);
+        }
+    }
+
+    /** A number that is told from the first to the last: these are, those beyond and the farthest ints are BAD. */
+    static void ends(String call, int first, int last, IntUnaryOperator answer) {
+        for (int told : new int[] {first, last}) {
+            due(call + " is BAD by " + told, answer.applyAsInt(told) == EchoPaysRent.BAD ? 1 : 0, 0);
+        }
+        for (int none : new int[] {first - 1, last + 1, Integer.MIN_VALUE, Integer.MAX_VALUE}) {
+            due(call + " by " + none, answer.applyAsInt(none), EchoPaysRent.BAD);
         }
     }
 

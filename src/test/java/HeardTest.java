@@ -76,14 +76,16 @@ public final class HeardTest {
     }
 
     private static void snowIsSilent() {
+        hears("no SNOW", snowy(0), 10, 5, 4, 15, 4, 19, 4);
+        hears("SNOW on 0", snowy(1), 10, 5, 4, 15, 4);
+        hears("SNOW on 1", snowy(2), 10, 5, 4, 15, 4, 19, 4);
+        hears("SNOW on both", snowy(3), 10, 5, 4);
+    }
+
+    private static EchoPaysRent snowy(int set) {
         EchoPaysRent x = Due.laid("w0,4,60;s5;f15,0,3;f0,0,0;");
-        hears("no snow", x, 10, 5, 4, 15, 4, 19, 4);
-        x.snow(1);
-        hears("snow on 0", x, 10, 5, 4, 15, 4);
-        x.snow(2);
-        hears("snow on 1", x, 10, 5, 4, 15, 4, 19, 4);
-        x.snow(3);
-        hears("snow on both", x, 10, 5, 4);
+        x.snow(set);
+        return x;
     }
 
     private static void maskedAndBlurred() {

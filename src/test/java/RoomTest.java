@@ -3,7 +3,9 @@ import java.lang.management.ManagementFactory;
 
 /** The room: all calls of a run live in one, so that no call makes objects or arrays, and a new object few. */
 public final class RoomTest {
-    private static final int ROUNDS = 512;
+    // an object is used for at most 512 calls, a round is of some 45
+    private static final int ROUNDS = 10;
+    private static final int OBJECTS = 50;
 
     private RoomTest() {
     }
@@ -11,25 +13,25 @@ public final class RoomTest {
     public static void main(String[] args) {
         ThreadMXBean threads = (ThreadMXBean) ManagementFactory.getThreadMXBean();
         long self = Thread.currentThread().getId();
-        EchoPaysRent x = new EchoPaysRent();
+        EchoPaysRent[] many = new EchoPaysRent[OBJECTS];
         // once before, so that what the machine itself makes at first is not counted
-        long sum = everyCall(x, 0);
-        long before = threads.getThreadAllocatedBytes(self);
-        for (int round = 1; round < ROUNDS; round++) {
-            sum += everyCall(x, round);
-        }
-        long made = threads.getThreadAllocatedBytes(self) - before;
-        // what asking makes is some hundred bytes; one array a round would be 8,000 at least
-        Due.due("bytes made by " + ROUNDS + " rounds of all calls: " + made, made < 4000 ? 1 : 0, 1);
-        Due.due("all rounds answered", sum != 0 ? 1 : 0, 1);
+        long sum = everyCall(new EchoPaysRent(), 0);
 
-        before = threads.getThreadAllocatedBytes(self);
-        EchoPaysRent[] many = new EchoPaysRent[100];
-        for (int i = 0; i < many.length; i++) {
+        long before = threads.getThreadAllocatedBytes(self);
+        for (int i = 0; i < OBJECTS; i++) {
             many[i] = new EchoPaysRent();
         }
-        made = (threads.getThreadAllocatedBytes(self) - before) / many.length;
+        long made = (threads.getThreadAllocatedBytes(self) - before) / OBJECTS;
         Due.due("bytes of a new object: " + made, made < 10000 ? 1 : 0, 1);
+
+        before = threads.getThreadAllocatedBytes(self);
+        for (int round = 0; round < ROUNDS * OBJECTS; round++) {
+            sum += everyCall(many[round % OBJECTS], round);
+        }
+        made = threads.getThreadAllocatedBytes(self) - before;
+        // what asking makes is some hundred bytes; one array a round would be 8,000 at least
+        Due.due("bytes made by " + ROUNDS * OBJECTS + " rounds of all calls: " + made, made < 4000 ? 1 : 0, 1);
+        Due.due("all rounds answered", sum != 0 ? 1 : 0, 1);
         Due.finish("RoomTest");
     }
 
