@@ -9,7 +9,9 @@ import java.util.Random;
 /** All promises: runs of drawn calls (the same ones each time), each answer against the slow Model's. */
 public final class ModelTest {
     private static final int RUNS = 500;
-    private static final int CALLS = 250;
+    private static final int DRAWS = 250;
+    // an object is used for at most 512 calls, and one draw may write two texts
+    private static final int MOST_CALLS = 440;
 
     private final Random random;
     private final EchoPaysRent program = new EchoPaysRent();
@@ -37,13 +39,13 @@ public final class ModelTest {
     }
 
     private void drawnRun() throws ReflectiveOperationException {
-        for (int i = 0; i < CALLS && !wrong; i++) {
+        for (int i = 0; i < DRAWS && run.size() < MOST_CALLS && !wrong; i++) {
             int kind = random.nextInt(100);
             if (i == 0 && kind > 10 || kind == 0) {
                 tellText(goodText());
                 call("lay");
             } else if (kind == 1) {
-                tellText(spoiltText());
+                tellText(random.nextInt(4) == 0 ? cutText() : spoiltText());
                 call("fault");
             } else if (kind < 4) {
                 trueEar();
@@ -56,6 +58,7 @@ public final class ModelTest {
                 }
             }
         }
+        Due.due("calls of one object: " + run.size(), run.size() <= 512 ? 1 : 0, 1);
     }
 
     private void call(String name, Object... args) throws ReflectiveOperationException {
@@ -126,6 +129,15 @@ public final class ModelTest {
             }
         }
         return text.toString();
+    }
+
+    /** A good text, cut, where the whole one stood before: what was wiped does not mend it. */
+    private String cutText() throws ReflectiveOperationException {
+        String text = goodText();
+        call("wipe");
+        tellText(text);
+        call("wipe");
+        return text.substring(0, random.nextInt(text.length()));
     }
 
     /** EARS that hear what is heard, so that more than nothing is found by them. */

@@ -20,6 +20,7 @@ public final class TextBoundsTest {
         writeBadBeforeFull();
         wipeOfNothing();
         wipeOfThreeHundred();
+        wipeLeavesNothing();
         faultOfNothing();
         faultOfThreeHundred();
         lettersOfItems();
@@ -188,6 +189,23 @@ public final class TextBoundsTest {
         }
         Due.due("3: for 300", x.write(4, 0), 300);
         Due.due("3: not for more", x.write(1, 0), FULL);
+    }
+
+    /** A text cut behind each of its bytes, where the whole one stood before: what was wiped does not mend it. */
+    private static void wipeLeavesNothing() {
+        String text = "f12,9,3;w30,7,60;s40;h04;a9;";
+        EchoPaysRent x = Due.withText(text);
+        Due.due("4: fault() of the whole text", x.fault(), NONE);
+        int start = 0;
+        for (int length = 1; length <= text.length(); length++) {
+            boolean whole = text.charAt(length - 1) == ';';
+            x = Due.withText(text);
+            Due.due("3: wipe()", x.wipe(), text.length());
+            Due.write(x, text.substring(0, length));
+            Due.due("3: fault() of its first " + length + " bytes alone", x.fault(), whole ? NONE : start);
+            Due.due("3: lay() of its first " + length + " bytes alone", x.lay(), whole && length > 8 ? 1 : NO);
+            start = whole ? length : start;
+        }
     }
 
     // ---- 4
